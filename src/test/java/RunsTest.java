@@ -718,8 +718,16 @@ public final class RunsTest {
         x.tick(3);
         due("said(0, 1) of call 0", x.said(0, 1), 0);
         x.flag();
-        x.tick(3);
-        due("count(5): no call is left from the run ahead", x.count(5), 1);
+        x.tick(2);
+        x.flag();
+        x.tick(1);
+        due("count(5): no call is left from the run ahead", x.count(5), 0);
+        x.tick(1);
+        x.back(2);
+        x.tick(1);
+        due("count(5): no call is left from what was gone back", x.count(5), 0);
+        x.tick(2);
+        due("count(5) at 3", x.count(5), 1);
     }
 
     private static void meetings() {

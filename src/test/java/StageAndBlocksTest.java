@@ -510,6 +510,7 @@ public final class StageAndBlocksTest {
             x.block(Kinds.GO, 0);
             x.cue(0, 0, 0, 0);
             x.top(0, 0);
+            x.cue(1, 0, 0, 0);
             x.sheet(0, 0, 16);
             x.sheet(1, 0, 15);
             x.flag();
@@ -532,7 +533,7 @@ public final class StageAndBlocksTest {
             case 8: x.take(0); return true;
             case 9: x.number(0, 0); return true;
             case 10: x.cue(0, 0, 0, 0); return true;
-            case 11: x.cue(0, 0, 0, 0); return true;
+            case 11: x.top(1, 1); return true;
             case 12: x.keep(); return false;
             case 13: x.stage(0, 4); return false;
             case 14: x.wall(0, 0, 0); return false;
@@ -541,7 +542,7 @@ public final class StageAndBlocksTest {
             case 17: x.lay(1, 0, 0); x.lay(2, 0, 0); x.lay(0, 1, 0); return false;
             case 18: x.use(1); return false;
             case 19: x.block(0, 1); x.number(1, 0); x.cue(3, 0, 0, 0); return false;
-            case 20: x.join(0, 3, 1); x.take(1); x.top(0, 1); return false;
+            case 20: x.join(0, 3, 1); x.take(1); x.top(0, 1); x.top(2, 1); return false;
             case 21: x.sheet(2, 0, 3); x.cell(0, 0, 5); x.copy(0, 0, 1, 0, 2); return false;
             case 22: Kinds.wish(x, "end x0=0"); x.mark(9); x.least(9); return false;
             case 23: x.write(0); x.act(0, 2, 3); x.taken(0, 0); return false;
