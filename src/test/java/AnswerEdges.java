@@ -701,8 +701,8 @@ final class AnswerEdges extends Edges {
             x.actor(0, 0, 1);
             Words.script(x, 0, EVERY, 1, 0, "SAY(MINE) TAKE");
             x.flag();
-            // Six calls were ahead of these: the 512th is as the first ones.
-            for (int i = 0; i < 505; i++) is(x.tick(1), i < 300 ? i + 1 : FULL);
+            // Nine calls were ahead of these, so count() is the 512th.
+            for (int i = 0; i < 502; i++) is(x.tick(1), i < 300 ? i + 1 : FULL);
             is(x.count(5), 150);
         });
     }

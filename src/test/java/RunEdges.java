@@ -284,9 +284,13 @@ final class RunEdges extends Edges {
         });
     }
 
+    private void same(int[] got, int[] due) {
+        for (int i = 0; i < due.length; i++) is(got[i], due[i]);
+    }
+
     /** What a run shows at one tick. */
     private static int[] seen(BlockStage x) {
-        int[] seen = new int[24];
+        int[] seen = new int[23];
         for (int i = 0; i < 6; i++) seen[i] = x.who(0, i);
         for (int i = 0; i < 4; i++) seen[6 + i] = x.look(i, 0);
         for (int i = 0; i < 3; i++) {
@@ -301,32 +305,38 @@ final class RunEdges extends Edges {
         return seen;
     }
 
+    /** A run in which much goes on: moves, things, a row, a repeat, calls, sayings, a refusal at tick 8. */
+    private static BlockStage busy() {
+        BlockStage x = new BlockStage();
+        x.stage(4, 1);
+        x.things(1, 0, 3);
+        x.actor(0, 0, 1);
+        Words.flagged(x, "MAKE(2) GO REPEAT(2)(TAKE LAY(0)(MINE) CALL2) GO GO GO");
+        Words.script(x, 0, CALLED, 2, 0, "SAY(MINE) SAY(PART(1)(SUM(MINE)(-2)))");
+        x.flag();
+        return x;
+    }
+
     private void back() {
         promise(21, "The RUN is as it was n TICKS ahead (0 and more): at which TICK it is", x -> {
-            x.stage(4, 1);
-            x.things(1, 0, 3);
-            x.actor(0, 0, 1);
-            Words.flagged(x, "MAKE(2) GO REPEAT(2)(TAKE LAY(0)(MINE) CALL2) GO GO GO");
-            Words.script(x, 0, CALLED, 2, 0, "SAY(MINE) SAY(PART(1)(SUM(MINE)(-2)))");
-            x.flag();
             int[][] seen = new int[17][];
+            BlockStage y = busy();
             for (int t = 0; t < 17; t++) {
-                seen[t] = seen(x);
-                if (t < 16) x.tick(1);
+                seen[t] = seen(y);
+                y.tick(1);
             }
             is(seen[16][13], 2);
-            is(x.back(0), 16);
-            java.util.Random random = new java.util.Random(5);
-            int at = 16;
-            for (int i = 0; i < 7; i++) {
-                int to = i == 3 ? 0 : random.nextInt(at + 1);
-                is(x.back(at - to), to);
-                int[] now = seen(x);
-                for (int k = 0; k < now.length; k++) is(now[k], seen[to][k]);
-                at = Math.min(16, to + 1 + random.nextInt(5));
-                is(x.tick(at - to == 0 ? 1 : at - to), at - to == 0 ? to + 1 : at);
-                now = seen(x);
-                for (int k = 0; k < now.length; k++) is(now[k], seen[at][k]);
+            for (int from = 0; from <= 16; from++) {
+                for (int to = 0; to <= from; to++) {
+                    BlockStage z = busy();
+                    if (from > 0) z.tick(from);
+                    is(z.back(from - to), to);
+                    same(seen(z), seen[to]);
+                    is(z.tick(1), to + 1);
+                    is(z.back(1), to);
+                    if (to < 16) z.tick(16 - to);
+                    same(seen(z), seen[16]);
+                }
             }
         });
         promise(21, "STATE", x -> {

@@ -89,24 +89,21 @@ public final class RunsTest {
 
     private static void back() {
         check.about("21 back");
-        BlockStage x = new BlockStage();
-        due("back(-1) without a run", x.back(-1), STATE);
-        x.stage(8, 1);
-        x.actor(0, 0, 1);
-        x.things(3, 0, 2);
-        x.block(Kinds.REPEAT, 0);
-        Kinds.in(x, 0, Kinds.FIRST, Kinds.NUMBER, 9);
-        Kinds.in(x, 0, Kinds.BODY, Kinds.GO, 0);
-        Kinds.in(x, 2, Kinds.NEXT, Kinds.SAY, 0);
-        Kinds.in(x, 3, Kinds.NEXT, Kinds.TAKE, 0);
-        x.cue(0, 0, 0, 0);
-        x.top(0, 0);
-        x.flag();
         int[][] rows = new int[41][];
+        BlockStage x = null;
+        // An object is used for 512 calls: the rows are seen on three.
         for (int t = 0; t <= 40; t++) {
+            if (t % 16 == 0) {
+                x = repeating();
+                if (t > 0) x.tick(t);
+            }
             rows[t] = seen(x);
-            if (t < 40) x.tick(1);
+            x.tick(1);
         }
+        x = new BlockStage();
+        due("back(-1) without a run", x.back(-1), STATE);
+        x = repeating();
+        due("tick(40)", x.tick(40), 40);
         due("back(-1)", x.back(-1), BAD);
         due("back(41)", x.back(41), BAD);
         due("back(MAX)", x.back(MAX), BAD);
@@ -125,6 +122,22 @@ public final class RunsTest {
         sameRow("behind tick(40)", seen(x), rows[40]);
         x.stage(2, 2);
         due("back(0) behind stage()", x.back(0), STATE);
+    }
+
+    private static BlockStage repeating() {
+        BlockStage x = new BlockStage();
+        x.stage(8, 1);
+        x.actor(0, 0, 1);
+        x.things(3, 0, 2);
+        x.block(Kinds.REPEAT, 0);
+        Kinds.in(x, 0, Kinds.FIRST, Kinds.NUMBER, 9);
+        Kinds.in(x, 0, Kinds.BODY, Kinds.GO, 0);
+        Kinds.in(x, 2, Kinds.NEXT, Kinds.SAY, 0);
+        Kinds.in(x, 3, Kinds.NEXT, Kinds.TAKE, 0);
+        x.cue(0, 0, 0, 0);
+        x.top(0, 0);
+        x.flag();
+        return x;
     }
 
     private static int[] seen(BlockStage x) {

@@ -14,6 +14,43 @@ final class StepEdges extends Edges {
         refusals();
     }
 
+    /**
+     * Of three actors, each with VALUE 3, a ROW of 0, 8 and 5 THINGS in its cell, one does an order. Just
+     * these numbers of its own become so much more: 0 .. 5 as who() tells them, 6 and 7 those of its ROW,
+     * 8 the THINGS in the cell where it was, 9 how often it SAID; what is the others' stays.
+     */
+    private void alone(String order, int... more) {
+        for (int a = 0; a < 3; a++) {
+            BlockStage x = new BlockStage();
+            x.stage(4, 3);
+            for (int b = 0; b < 3; b++) {
+                x.actor(b, b, 1);
+                x.things(b, b, 5);
+                Words.script(x, b, FLAG, 0, 0, "SET(3) MAKE(2) LAY(1)(8)" + (a == b ? " " + order : ""));
+            }
+            x.flag();
+            x.tick(3);
+            int[] due = state(x);
+            for (int i = 0; i < more.length; i += 2) due[a * 10 + more[i]] += more[i + 1];
+            x.tick(1);
+            int[] got = state(x);
+            for (int i = 0; i < due.length; i++) is(got[i], due[i]);
+            is(x.scriptOf(a, 5), 0);
+            is(x.count(8), due[8] + due[18] + due[28]);
+        }
+    }
+
+    private static int[] state(BlockStage x) {
+        int[] state = new int[30];
+        for (int a = 0; a < 3; a++) {
+            for (int what = 0; what < 6; what++) state[10 * a + what] = x.who(a, what);
+            for (int i = 0; i < 2; i++) state[10 * a + 6 + i] = x.item(a, i);
+            state[10 * a + 8] = x.look(a, a);
+            for (int i = 0; i < x.count(5); i++) state[10 * a + 9] += x.said(i, 0) == a ? 1 : 0;
+        }
+        return state;
+    }
+
     private void moves() {
         term(3, "GO: if WALLED is 0 the ACTOR stands in the cell ahead, else it has BUMPED once more.", x -> {
             x.stage(3, 3);
@@ -37,6 +74,7 @@ final class StepEdges extends Edges {
             y.tick(100);
             is(y.who(0, 4), 100);
             is(y.who(0, 0), 0);
+            alone("GO", 0, 1);
         });
         term(3, "TURN: HEADING is n more, modulo 4.", x -> {
             for (int i = 0; i < 16; i++) {
@@ -49,6 +87,7 @@ final class StepEdges extends Edges {
                     is(y.who(0, 2), (i / 4 + t * (i % 4)) % 4);
                 }
             }
+            alone("TURN2", 2, 2);
         });
     }
 
@@ -65,6 +104,7 @@ final class StepEdges extends Edges {
                 is(x.count(8), 2 - value[t]);
                 x.tick(1);
             }
+            alone("TAKE", 3, 1, 8, -1);
         });
         term(3, "PUT: if VALUE is above 0 and HERE below 9: one THING more, VALUE 1 less.", x -> {
             x.things(0, 0, 7);
@@ -87,6 +127,7 @@ final class StepEdges extends Edges {
             y.tick(2);
             is(y.who(0, 3), MIN);
             is(y.look(0, 0), 1);
+            alone("PUT", 3, -1, 8, 1);
         });
         term(3, "SET: VALUE is FIRST.", x -> {
             x.actor(0, 0, 0);
@@ -97,6 +138,7 @@ final class StepEdges extends Edges {
                 x.tick(1);
                 is(x.who(0, 3), d);
             }
+            alone("SET(-9)", 3, -12);
         });
         term(3, "SAY: FIRST is SAID.", x -> {
             x.actor(0, 0, 0);
@@ -106,6 +148,7 @@ final class StepEdges extends Edges {
             int[] due = {MIN, MAX, -99, 0};
             for (int i = 0; i < 4; i++) is(x.said(i, 1), due[i]);
             is(x.count(5), 4);
+            alone("SAY(4)", 9, 1);
         });
         term(3, "CALL: n is sent.", x -> {
             x.actor(0, 0, 0);
@@ -120,6 +163,7 @@ final class StepEdges extends Edges {
                 is(x.said(i, 2), due[i][1]);
             }
             is(x.count(5), due.length);
+            alone("CALL0");
         });
     }
 
@@ -145,6 +189,7 @@ final class StepEdges extends Edges {
             is(x.item(0, 0), 0);
             x.tick(1);
             is(x.item(0, 19), 0);
+            alone("MAKE(3)", 5, 1, 7, -8);
         });
         term(3, "LAY: number FIRST of its ROW is SECOND (both are worked out ahead of what the host refuses).", x -> {
             x.actor(0, 0, 0);
@@ -166,6 +211,7 @@ final class StepEdges extends Edges {
                 y.tick(2);
                 is(y.scriptOf(0, 7), due[i]);
             }
+            alone("LAY(0)(4)", 6, 4);
         });
         term(3, "Behind each of these (and WAIT) it goes ON.", x -> {
             x.actor(0, 0, 0);
@@ -173,6 +219,7 @@ final class StepEdges extends Edges {
             x.flag();
             places(x, script, 2, 3, 4, 5, 6, 7, 8, 9, 10, 11, -1, -1);
             is(x.scriptOf(script, 7), 0);
+            alone("WAIT");
         });
     }
 
