@@ -679,6 +679,7 @@ final class AnswerEdges extends Edges {
             goesOn(true, 0, y -> y.act(99, 1, 5));
             goesOn(true, 1, y -> y.taken(0, 1));
             goesOn(true, 1, y -> y.sheet(0, 1, 2));
+            goesOn(true, 1, y -> y.sheet(0, -1, 2));
             goesOn(true, 1, y -> y.cell(0, 0, 2));
             goesOn(true, 2, y -> y.copy(0, 0, 0, 1, 2));
             is(x.count(4), -1);

@@ -162,6 +162,10 @@ final class LeastEdges extends Edges {
                 Kinds.wish(y, "end v0=1 and end x0=1 and end s=1");
                 hints(y, i == 0 ? 3 : 4, go[i], 3);
             }
+            // With nothing there, nothing is in its NEXT then: the row ends behind it.
+            BlockStage turned = taker("GO TAKE");
+            Kinds.wish(turned, "end v0=1 and end x0=1 and end b0=0");
+            hints(turned, 9, 0, 3);
             // The second ABOUT meets the row as the first one left it: GO behind WAIT, then behind TAKE.
             BlockStage twice = taker("GO WAIT TAKE SAY");
             Kinds.wish(twice, "end v0=1 and end x0=1 and end s=1 and never s=2");
@@ -259,6 +263,24 @@ final class LeastEdges extends Edges {
             two.keep();
             Kinds.wish(two, "end v0=1");
             is(two.least(1), NONE);
+            // It is RIGHT on all KEPT STAGES but one, whichever that is.
+            for (int kept = 1; kept <= 4; kept++) {
+                for (int bad = -1; bad < kept; bad++) {
+                    BlockStage z = new BlockStage();
+                    for (int k = 0; k < kept; k++) {
+                        z.stage(4, 4);
+                        z.things(0, 0, k == bad ? 1 : 3);
+                        z.actor(0, 0, 0);
+                        z.keep();
+                    }
+                    Words.flagged(z, "SET(HERE)");
+                    Kinds.wish(z, "end v0=3");
+                    is(z.least(1), bad < 0 ? 0 : NONE);
+                    Kinds.wish(z, "end v0<2");
+                    // By OUT all are 0.
+                    is(z.least(1), bad == 0 && kept == 1 ? 0 : 1);
+                }
+            }
         });
         promise(29, "(Nothing is changed.)", x -> {
             BlockStage y = flagged("GO TURN1 SET(5) SAY(1)");
@@ -327,8 +349,16 @@ final class LeastEdges extends Edges {
             is(x.least(1), STATE);
             Kinds.wish(x, "end g=1");
             is(x.least(1), STATE);
-            while (x.count(0) < 30) x.block(0, 0);
+            for (int i = 9; i < 30; i++) x.block(0, 0);
             is(x.least(1), STATE);
+            // It is BLOCKS that count: eight of them in six SCRIPTS with three ACTORS are not too many.
+            BlockStage y = new BlockStage();
+            for (int a = 0; a < 3; a++) y.actor(a, 0, 1);
+            y.keep();
+            for (int s = 0; s < 6; s++) Words.script(y, s % 3, FLAG, 0, 0, s < 4 ? "WAIT" : "WAIT GO");
+            Kinds.wish(y, "end x1=1 and end x2=2 and never b0=1");
+            is(y.count(0), 8);
+            hints(y, 2, 5, 0, 7, 0);
         });
     }
 
@@ -344,7 +374,15 @@ final class LeastEdges extends Edges {
             y.number(2, 9);
             y.flag();
             is(y.hint(1, 1), 2);
-            while (y.count(0) < 9) y.block(0, 0);
+            y.take(0);
+            y.use(0);
+            y.stage(1, 1);
+            y.keep();
+            y.write(0);
+            y.act(0, 0, 1);
+            is(y.hint(0, 0), 2);
+            is(y.hint(1, 1), 2);
+            for (int i = 0; i < 7; i++) y.block(0, 0);
             is(y.least(2), STATE);
             is(y.hint(0, 0), 2);
             is(y.hint(1, 0), 2);

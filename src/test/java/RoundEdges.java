@@ -38,6 +38,23 @@ final class RoundEdges extends Edges {
             is(worth(y, "ITEM"), -11);
             is(worth(y, ""), 0);
         });
+        term(2, "What a ROUND is worth", x -> {
+            // All blocks in one, as deep as they go: by FIRST, by SECOND, by each in its turn.
+            for (int way = 0; way < 3; way++) {
+                StringBuilder deep = new StringBuilder();
+                StringBuilder ends = new StringBuilder();
+                for (int i = 0; i < 28; i++) {
+                    deep.append(way == 0 || way == 2 && i % 2 == 0 ? "SUM(" : "SUM()(");
+                    ends.append(')');
+                }
+                BlockStage y = new BlockStage();
+                y.actor(0, 0, 0);
+                is(worth(y, deep + "-7" + ends), -7);
+                is(y.count(0), 30);
+            }
+            x.actor(0, 0, 0);
+            is(worth(x, "NOT(".repeat(27) + "NOT" + ")".repeat(27)), 0);
+        });
         term(2, "FIRST is worked out ahead of SECOND", x -> {
             // What is refused first is told: -11 of ITEM without a ROW, -15 of PART by 0.
             for (String round : new String[] {"SUM", "PART", "LESS"}) {

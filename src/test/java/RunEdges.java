@@ -73,6 +73,25 @@ final class RunEdges extends Edges {
             x.tick(1);
             is(x.count(5), 1);
         });
+        term(3, "At a TICK first all SCRIPTS WAKE", x -> {
+            // What script 0 does at a TICK, scripts behind it do not meet or hear at that TICK yet.
+            x.stage(3, 1);
+            x.actor(0, 0, 1);
+            x.actor(1, 0, 1);
+            Words.flagged(x, "GO GO CALL0 CALL0");
+            Words.script(x, 1, MEETING, 0, 0, "SAY(5)");
+            Words.script(x, 1, CALLED, 0, 0, "SAY(6)");
+            x.flag();
+            int[] said = {0, 1, 1, 2, 3};
+            for (int t = 1; t <= 5; t++) {
+                x.tick(1);
+                is(x.count(5), said[t - 1]);
+                is(x.who(0, 0), t < 2 ? 1 : 2);
+            }
+            is(x.said(0, 1), 5);
+            is(x.said(1, 1), 6);
+            is(x.said(2, 1), 6);
+        });
         term(3, "and an ACTOR that is there", x -> {
             x.actor(0, 0, 0);
             Words.script(x, 2, FLAG, 0, 0, "SAY(1) SAY(2)");

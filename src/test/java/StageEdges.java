@@ -307,6 +307,9 @@ final class StageEdges extends Edges {
             x.actor(2, 2, 0);
             is(x.things(2, 2, 4), 0);
             is(x.look(2, 2), 4);
+            is(x.things(2, 2, 0), 4);
+            is(x.look(2, 2), 0);
+            is(x.who(0, 0), 2);
         });
         promise(4, "how many there were", x -> {
             is(x.things(0, 0, 9), 0);
@@ -563,6 +566,19 @@ final class StageEdges extends Edges {
             is(x.use(0), 1);
             is(x.look(6, 1), 9);
             is(x.count(2), 3);
+            for (int k = 1; k < 4; k++) {
+                x.stage(k, k);
+                x.actor(0, 0, 0);
+                x.keep();
+            }
+            for (int i = 0; i < 8; i++) {
+                is(x.use(i % 4), 1);
+                is(x.count(2), i % 4 == 0 ? 3 : 1);
+                is(x.look(i % 4, 0), i % 4 == 0 ? 0 : -5);
+                x.wall(0, 0, 1);
+                x.actor(0, 0, 0);
+                x.stage(5, 5);
+            }
         });
         promise(8, "NONE", x -> {
             is(x.use(0), NONE);

@@ -75,6 +75,19 @@ final class StepEdges extends Edges {
             is(y.who(0, 4), 100);
             is(y.who(0, 0), 0);
             alone("GO", 0, 1);
+            // An ACTOR is no WALL: each goes to where each other one stands.
+            for (int way = 0; way < 9; way++) {
+                if (way / 3 == way % 3) continue;
+                BlockStage z = new BlockStage();
+                z.stage(2, 2);
+                for (int a = 0; a < 3; a++) z.actor(a == way / 3 ? 0 : 1, a == way / 3 || a == way % 3 ? 0 : 1, 1);
+                Words.script(z, way / 3, FLAG, 0, 0, "GO");
+                z.flag();
+                z.tick(1);
+                is(z.who(way / 3, 0), 1);
+                is(z.who(way / 3, 4), 0);
+                is(z.who(way % 3, 0), 1);
+            }
         });
         term(3, "TURN: HEADING is n more, modulo 4.", x -> {
             for (int i = 0; i < 16; i++) {
@@ -247,6 +260,16 @@ final class StepEdges extends Edges {
                 y.tick(100);
                 is(y.said(0, 2), 63 + due[i] + 2);
             }
+            // It may be block 0 that is come to from above, from what has it in its NEXT or its BODY.
+            for (int hole = 0; hole < 2; hole++) {
+                BlockStage y = new BlockStage();
+                y.actor(0, 0, 0);
+                Words.blocks(y, "REPEAT(3)(SAY)");
+                int above = Words.flagged(y, "IF(NOT)");
+                y.join(3, hole, 0);
+                y.flag();
+                places(y, above, 0, 2, 0, 2, 0, 2, 0, -1);
+            }
             // Come to from above once more, inside another REPEAT, its TURNS are worked out anew.
             x.actor(0, 0, 0);
             int script = Words.flagged(x, "REPEAT(2)(REPEAT(SUM(MINE)(1))(SET(1)))");
@@ -331,6 +354,24 @@ final class StepEdges extends Edges {
             int other = Words.flagged(x, "REPEAT(1)(IF()()(WAIT WAIT))");
             x.flag();
             places(x, other, 8, 9, 10, 6, -1);
+        });
+        term(3, "in whose BODY or OTHER the BLOCK lies, first or by NEXTS", x -> {
+            // However deep it lies, and by however many NEXTS: one STEP goes all the way.
+            for (int hole = 0; hole < 4; hole += 2) {
+                BlockStage y = new BlockStage();
+                y.actor(0, 0, 0);
+                int script = Words.flagged(y, "REPEAT(2)");
+                for (int b = 2; b < 30; b++) {
+                    is(y.block(hole == 0 || b == 29 ? 7 : 12, 0), b);
+                    is(y.join(b == 2 ? 0 : b - 1, b == 2 ? 1 : hole, b), 1);
+                }
+                y.flag();
+                for (int turn = 0; turn < 2; turn++) {
+                    for (int b = 2; b < 30; b++) places(y, script, b);
+                    places(y, script, 0);
+                }
+                places(y, script, -1);
+            }
         });
         term(3, "to REPEAT, WHILE (not from above)", x -> {
             x.actor(0, 0, 0);

@@ -221,47 +221,79 @@ final class TextEdges extends Edges {
         });
     }
 
+    /** An answer to each of many x, by what the document's words come to for this block and act. */
+    private void eachX(int block, int act, Formula due) {
+        BlockStage x = new BlockStage();
+        families(x);
+        int[] far = {MIN, MIN + 1, MAX, MAX - 1, 1 << 30, -(1 << 30), 1 << 15, 12345678};
+        for (int i = -50; i < 50 + far.length; i++) {
+            int with = i < 50 ? i : far[i - 50];
+            is(x.act(block, act, with), due.of(with));
+        }
+    }
+
+    private interface Formula {
+        int of(int x);
+    }
+
     private void termBodies() {
         term(6, "BODIES, each with its number: any BLOCK: 10 runs: x + m.", x -> {
             families(x);
             acts(x, 2, 0, 5, 7, 10);
             acts(x, 2, 0, -2, 0, 10);
+            eachX(2, 0, v -> v + 2);
         });
         term(6, "11 costs: runs(x) * 2.", x -> {
             families(x);
             acts(x, 4, 1, 10, 22, 11, 20, 10);
             acts(x, 0, 1, 10, 20, 11, 20, 10);
+            eachX(4, 1, v -> (v + 1) * 2);
         });
         term(6, "12 tells: costs(x) ^ runs(x + n).", x -> {
             families(x);
             acts(x, 4, 2, 10, 24, 12, 11, 20, 10, 20, 10);
             acts(x, 2, 2, 5, -11, 12, 40, 11, 10, 10);
+            eachX(4, 2, v -> (v + 1) * 2 ^ v + 4);
+            eachX(2, 2, v -> (v + 2) * 6 ^ v - 38);
         });
         term(6, "ORDERS: 20 runs: super.runs(x) - n.", x -> {
             families(x);
             acts(x, 4, 0, 10, 11, 20, 10);
             acts(x, 6, 0, 10, 16, 20, 10);
+            eachX(4, 0, v -> v + 1);
+            eachX(6, 0, v -> v + 6);
         });
         term(6, "SHELLS: 30 costs: super.costs(x) + 3.", x -> {
             families(x);
             acts(x, 6, 1, 10, 35, 30, 11, 20, 10);
+            eachX(6, 1, v -> (v + 6) * 2 + 3);
         });
         term(6, "31 tells: super.tells(x + 1).", x -> {
             families(x);
             acts(x, 6, 2, 10, 52, 31, 12, 30, 11, 20, 10, 20, 10);
+            eachX(6, 2, v -> (v + 7) * 2 + 3 ^ v + 7);
         });
         term(6, "ROUNDS: 40 costs: super.costs(x) * 3.", x -> {
             families(x);
             acts(x, 2, 1, 5, 42, 40, 11, 10);
             acts(x, 8, 1, 10, 126, 40, 11, 50, 10);
+            eachX(2, 1, v -> (v + 2) * 6);
+            eachX(8, 1, v -> (v + 8 ^ 7) * 6);
         });
         term(6, "SHARPS: 50 runs: super.runs(x) ^ 7.", x -> {
             families(x);
             acts(x, 8, 0, 10, 21, 50, 10);
+            eachX(8, 0, v -> v + 8 ^ 7);
+            BlockStage y = new BlockStage();
+            for (int b = 0; b < 30; b++) {
+                y.block(19 + b % 4, 0);
+                for (int v = -3; v < 4; v++) is(y.act(b, 0, v), v + b ^ 7);
+            }
         });
         term(6, "51 tells: costs(x) - super.tells(x).", x -> {
             families(x);
             acts(x, 8, 2, 10, 19, 51, 40, 11, 50, 10, 12, 40, 11, 50, 10, 50, 10);
+            eachX(8, 2, v -> (v + 8 ^ 7) * 6 - ((v + 8 ^ 7) * 6 ^ (v + 8 ^ 7)));
         });
     }
 

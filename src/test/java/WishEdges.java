@@ -289,6 +289,28 @@ final class WishEdges extends Edges {
             marked(y, "once x0=0", 5, 5);
             is(y.fails(0), 1);
         });
+        term(4, "RIGHT if on each all PARTS hold", x -> {
+            // The PARTS of one WHEN too: of each row of four just one is not so, or all are.
+            String[] whens = {"end", "always", "never", "once"};
+            String[] so = {"x0=5", "x0<9", "x0=6", "x0=4"};
+            String[] not = {"x0=4", "x0<5", "x0=5", "x0=6"};
+            for (int when = 0; when < 4; when++) {
+                for (int parts = 1; parts <= 4; parts++) {
+                    for (int bad = -1; bad < parts; bad++) {
+                        StringBuilder wish = new StringBuilder();
+                        for (int i = 0; i < parts; i++) {
+                            if (i > 0) wish.append(" and ");
+                            wish.append(whens[when]).append(' ').append(i == bad ? not[when] : so[when]);
+                        }
+                        marked(walker(), wish.toString(), 5, bad < 0 ? -1 : 5);
+                    }
+                }
+            }
+            // Of several that are broken, the one that is broken first tells when.
+            marked(walker(), "always x0<4 and always x0<3 and always x0<5", 6, 3);
+            marked(walker(), "never x0=4 and never x0=3 and never x0=5", 6, 3);
+            marked(walker(), "always x0<4 and never x0=2 and once x0=9 and end x0=9", 6, 2);
+        });
         term(4, "end: so at T", x -> {
             for (int t = 1; t <= 9; t++) marked(walker(), "end x0=4", t, t == 4 ? -1 : t);
         });
@@ -365,6 +387,24 @@ final class WishEdges extends Edges {
                 is(x.count(6), has);
             }
             is(x.feed(-1, 0), 10);
+            // What is fed stays, whatever else is called.
+            BlockStage y = walker();
+            Kinds.wish(y, "end x0=1");
+            Kinds.feed(y, "end ");
+            y.mark(1);
+            y.least(1);
+            y.flag();
+            y.tick(1);
+            y.back(1);
+            y.write(0);
+            y.act(0, 0, 1);
+            y.use(0);
+            y.take(0);
+            y.stage(1, 1);
+            y.sheet(0, 0, 1);
+            is(y.count(6), 4);
+            Kinds.feed(y, "g=0 and end s=0");
+            is(y.wish(), 2);
         });
         promise(25, "BAD", x -> {
             x.feed(0, 3);
