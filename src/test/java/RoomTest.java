@@ -32,7 +32,7 @@ public final class RoomTest {
     }
 
     private static long taken() {
-        return BEAN.getThreadAllocatedBytes(Thread.currentThread().getId());
+        return BEAN.getCurrentThreadAllocatedBytes();
     }
 
     /** Nearly all of an object's 512 calls, the dear ones most. */
